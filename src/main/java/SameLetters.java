@@ -9,6 +9,7 @@ public final class SameLetters {
     private static final int MOST_WORDS = 9, MOST_SHAPES = 4, MOST_SPELLED = 5, MOST_IN_ROW = 3;
     private static final int MOST_BYTES = 200, MOST_WRITTEN = 12, MOST_ANSWERS = 99;
     private static final int IMAGES = 2, SIDES = 2, SETS = 1 << SIGNS;
+    /** A row of words is a number of three figures at most. */
     private static final int ROWS = 1000;
 
     private final Text text;
@@ -74,12 +75,12 @@ public final class SameLetters {
         if (!isWord(w)) {
             return BAD;
         }
-        Word asked = spoken.words[w];
+        Word told = spoken.words[w];
         switch (what) {
-            case 0: return asked.length;
-            case 1: return asked.kind;
-            case 2: return asked.own;
-            case 3: return asked.other;
+            case 0: return told.length;
+            case 1: return told.kind;
+            case 2: return told.own;
+            case 3: return told.other;
             default: return BAD;
         }
     }
@@ -88,16 +89,16 @@ public final class SameLetters {
         if (!isWord(w) || i < 0) {
             return BAD;
         }
-        Word asked = spoken.words[w];
-        return i < asked.length ? asked.signs[i] : NOT_SO_MANY;
+        Word told = spoken.words[w];
+        return i < told.length ? told.signs[i] : NOT_SO_MANY;
     }
 
     public int shape(int s, int i) {
         if (!isShape(s) || i < 0) {
             return BAD;
         }
-        Shape asked = spoken.shapes[s];
-        return i < asked.length ? asked.kinds[i] : NOT_SO_MANY;
+        Shape told = spoken.shapes[s];
+        return i < told.length ? told.kinds[i] : NOT_SO_MANY;
     }
 
     public int letter(int l, int what) {
@@ -470,37 +471,19 @@ public final class SameLetters {
                 if (from.sort == Text.END) {
                     return true;
                 }
-                if (!readItem(from)) {
+                boolean isItem = from.sort == Text.WORD ? readWord(from) : from.sort == Text.SHAPE && readShape(from);
+                if (!isItem) {
                     return false;
                 }
             }
             return false;
         }
 
-        private boolean readItem(Text from) {
-            if (from.sort == Text.WORD) {
-                return readWord(from);
-            }
-            return from.sort == Text.SHAPE && readShape(from);
-        }
-
         private boolean readWord(Text from) {
-            if (wordCount >= MOST_WORDS || !readTold(from, words[wordCount])) {
+            if (wordCount >= MOST_WORDS) {
                 return false;
             }
-            wordCount++;
-            return true;
-        }
-
-        private boolean readShape(Text from) {
-            if (shapeCount >= MOST_SHAPES || !readKinds(from, shapes[shapeCount])) {
-                return false;
-            }
-            shapeCount++;
-            return true;
-        }
-
-        private static boolean readTold(Text from, Word into) {
+            Word into = words[wordCount];
             if (!readSigns(from, into) || !readNumber(from, KINDS - 1)) {
                 return false;
             }
@@ -513,8 +496,26 @@ public final class SameLetters {
                 return false;
             }
             into.other = from.number;
-            from.advance();
-            return from.sort == Text.SEMICOLON;
+            wordCount++;
+            return readEnd(from);
+        }
+
+        private boolean readShape(Text from) {
+            if (shapeCount >= MOST_SHAPES || !readNumber(from, KINDS - 1)) {
+                return false;
+            }
+            Shape into = shapes[shapeCount];
+            into.kinds[0] = from.number;
+            into.length = 1;
+            shapeCount++;
+            for (int i = 1; i < MOST_IN_ROW; i++) {
+                if (!readNumber(from, KINDS - 1)) {
+                    return from.sort == Text.SEMICOLON;
+                }
+                into.kinds[i] = from.number;
+                into.length = i + 1;
+            }
+            return readEnd(from);
         }
 
         private static boolean readSigns(Text from, Word into) {
@@ -534,14 +535,7 @@ public final class SameLetters {
             return from.sort == Text.NUMBER && from.number <= most;
         }
 
-        private static boolean readKinds(Text from, Shape into) {
-            for (int i = 0; i < MOST_IN_ROW; i++) {
-                if (!readNumber(from, KINDS - 1)) {
-                    return i > 0 && from.sort == Text.SEMICOLON;
-                }
-                into.kinds[i] = from.number;
-                into.length = i + 1;
-            }
+        private static boolean readEnd(Text from) {
             from.advance();
             return from.sort == Text.SEMICOLON;
         }
@@ -648,7 +642,7 @@ public final class SameLetters {
             return isLetter[answer] && answer != l && counts[answer] == counts[l];
         }
 
-        private boolean isAnswer(int l, int answer, int slack) {
+        private boolean isNear(int l, int answer, int slack) {
             return isLetter[answer] && answer != l && difference(l, answer) <= slack;
         }
 
@@ -686,7 +680,7 @@ public final class SameLetters {
         int countAnswers(int l, int slack) {
             int many = 0;
             for (int m = 1; m < ROWS; m++) {
-                if (isAnswer(l, m, slack)) {
+                if (isNear(l, m, slack)) {
                     many++;
                 }
             }
@@ -697,7 +691,7 @@ public final class SameLetters {
             int found = NONE;
             int most = -1;
             for (int m = 1; m < ROWS; m++) {
-                if (isAnswer(l, m, slack) && own[m] > most) {
+                if (isNear(l, m, slack) && own[m] > most) {
                     found = m;
                     most = own[m];
                 }
@@ -741,7 +735,7 @@ public final class SameLetters {
             int common = SETS - 1;
             boolean none = true;
             for (int m = 1; m < ROWS; m++) {
-                if (isAnswer(l, m, slack)) {
+                if (isNear(l, m, slack)) {
                     common &= set[m];
                     none = false;
                 }

@@ -43,6 +43,12 @@ public final class PromisesTest {
         keepAndBack();
         count();
         trace();
+        fullTongue();
+        ties();
+        anew();
+        firstLetterAnswers();
+        bytesBehindTheText();
+        imageOfTwelve();
         Check.end();
     }
 
@@ -215,6 +221,7 @@ public final class PromisesTest {
         fault("0", 0);
         fault("a 0 0 0;", 0);
         fault("words a 0 0 0;", 0);
+        fault("bord a 0 0 0;", 0);
         fault("worda 0 0 0;", 0);
         fault("shapes 0;", 0);
         fault("shap 0;", 0);
@@ -680,5 +687,118 @@ public final class PromisesTest {
         Check.due("27: behind a new tongue", x.trace(), 1011 + 10101);
         Check.due("27: no word", x.rate(0, 0), NO);
         Check.due("27: as before", x.trace(), 1011 + 10101);
+    }
+
+    private static void fullTongue() {
+        StringBuilder text = new StringBuilder();
+        for (int w = 0; w < 9; w++) {
+            text.append("word abcdh 0 ").append(w).append(' ').append(9 - w).append(';');
+        }
+        SameLetters x = Check.told(text + "shape 0 0 0;shape 0 0;shape 0;", 12);
+        Check.due("8: 999 has own 24", x.letter(999, 0), 24);
+        Check.due("8: 999 has other 3", x.letter(999, 1), 3);
+        Check.due("14: all rows", x.says(-1), 9 + 81 + 729);
+        Check.due("14: the last row", x.says(818), 999);
+        Check.due("14: none behind it", x.says(819), NOT_SO_MANY);
+        Check.due("10: 999", x.write(999), 1);
+        Check.due("15: all others answer 999", x.answers(999, 0, 0), 728);
+        Check.due("15: the best answer to 999", x.answers(999, 0, 1), 899);
+        Check.due("15: the best answer to 9", x.answers(9, 2, 1), 8);
+        Check.due("19: 999", x.chain(111, 1), 999);
+        Check.due("19: behind 999", x.chain(999, 1), 899);
+        Check.due("21: five", x.alphabet(5, 0), 143);
+        Check.due("21: five, how many", x.alphabet(5, 1), 819);
+        Check.due("22: of three words", x.asked(999, 0), 728);
+        Check.due("22: of two words", x.asked(99, 1), 80);
+    }
+
+    private static void ties() {
+        SameLetters x = Check.told("word ab 0 2 4;word ba 0 5 3;word ab 0 5 6;word ba 0 2 9;word ab 0 5 1;shape 0;", 6);
+        Check.due("19: of several the least", x.chain(1, 1), 2);
+        Check.due("19: behind the least, the next", x.chain(2, 1), 3);
+        Check.due("19: behind the next, the least", x.chain(3, 1), 2);
+        Check.due("20: in the ring", x.ring(3), 2);
+        Check.due("20: ahead of the ring", x.ring(5), 3);
+        Check.due("17: the best one's answer is the next", x.best(0), 2);
+        Check.due("17: the next one's other", x.best(1), 6);
+        SameLetters y = Check.told("word ab 0 3 3;word ba 0 1 3;word ab 0 1 3;word ba 0 1 3;shape 0;", 5);
+        Check.due("19: behind the best one the least", y.chain(1, 1), 2);
+        Check.due("17: of several the least, 1", y.best(0), 1);
+    }
+
+    private static void anew() {
+        SameLetters x = Check.told("word h 0 1 1;word h 0 2 1;word h 0 3 1;word g 0 1 1;word ab 0 1 1;"
+                + "shape 0;shape 0 0;", 7);
+        Check.due("21: one", x.alphabet(1, 1), 12);
+        Check.typed(x, "word b 0 1 1;word ba 0 1 1;word ab 0 7 7;shape 0;shape 1 1;");
+        Check.due("4: anew", x.tongue(), 5);
+        Check.due("21: one of the new ones", x.alphabet(1, 0), 2);
+        Check.due("21: one, how many of the new ones", x.alphabet(1, 1), 1);
+        Check.due("21: all, how many of the new ones", x.alphabet(8, 1), 3);
+        Check.due("16: the new ones", x.mute(0), 1);
+        Check.due("16: the first of the new ones", x.mute(1), 1);
+        Check.due("17: of the new ones", x.best(0), 2);
+        Check.due("17: of the new ones, other", x.best(1), 7);
+        Check.due("19: of the new ones", x.chain(3, 1), 2);
+        Check.due("14: the most of the new ones", x.says(-2), 7);
+        Check.due("8: no row of the old ones", x.letter(11, 0), BAD);
+        Check.due("22: none of the old ones", x.asked(2, 1), 0);
+    }
+
+    private static void firstLetterAnswers() {
+        SameLetters x = Check.told("word ab 0 0 8;word ba 0 0 2;word c 1 0 0;shape 0;shape 1;", 5);
+        Check.due("15: 1 answers 2", x.answers(2, 0, 1), 1);
+        Check.due("15: 1 is counted", x.answers(2, 0, 0), 1);
+        Check.due("17: 2 is answered by 1", x.best(0), 2);
+        Check.due("18: 1 alone answers", x.bar(2, 0), 0);
+        Check.due("22: 1 is of the shape", x.asked(2, 0), 1);
+        Check.due("14: 1 is the first", x.says(0), 1);
+        SameLetters y = Check.told("word c 0 0 0;word ab 0 0 8;word ba 0 0 2;shape 0;", 4);
+        Check.due("16: 1 has no answer", y.mute(0), 1);
+        Check.due("16: 1 is the first", y.mute(1), 1);
+        SameLetters z = Check.told("word ab 0 9 9;shape 0 0 0;word ba 0 0 2;shape 2 2 2;shape 1 2 1;shape 0 1 2;", 6);
+        Check.due("8: a row that is no shape", z.letter(11, 0), BAD);
+        Check.due("14: rows of one shape alone", z.says(-1), 8);
+    }
+
+    private static void bytesBehindTheText() {
+        SameLetters x = new SameLetters();
+        Check.typed(x, "shapes 00;word");
+        x.clear();
+        Check.typed(x, "shape");
+        Check.due("4: letters that were cleared", x.tongue(), -10 - 5);
+        Check.typed(x, " 0");
+        Check.due("4: figures that were cleared", x.tongue(), -10 - 7);
+        Check.typed(x, " ");
+        Check.due("4: a sign that was cleared", x.tongue(), -10 - 8);
+        Check.typed(x, ";");
+        Check.due("4: told in the end", x.tongue(), 1);
+        String blanks = " ".repeat(192);
+        fault(blanks + "shape 00", 198);
+        fault(blanks + "shape 12", 198);
+        fault(blanks + "shape 0 ", 200);
+        fault(blanks + " shape 1", 200);
+        fault(blanks + "shape  ;", 199);
+        fault(blanks + "word abc", 200);
+        fault(blanks + "    word", 200);
+        fault(blanks + "   words", 195);
+        Check.told(blanks + "shape 2;", 1);
+    }
+
+    private static void imageOfTwelve() {
+        SameLetters x = small();
+        for (int i = 0; i < 12; i++) {
+            x.write(i % 2 == 0 ? 41 : 31);
+        }
+        Check.due("24: twelve", x.keep(1), 12);
+        Check.due("10: full", x.write(41), FULL);
+        x.undo();
+        x.keep(0);
+        Check.due("25: twelve", x.back(1), 12);
+        Check.due("12: the twelfth", x.wrote(11), 31);
+        Check.due("12: no thirteenth", x.wrote(12), NOT_SO_MANY);
+        Check.due("25: eleven", x.back(0), 11);
+        Check.due("12: no twelfth", x.wrote(11), NOT_SO_MANY);
+        Check.due("23: of eleven", x.rate(5, 0), 1 + 11);
     }
 }
