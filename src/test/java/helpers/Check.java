@@ -41,6 +41,20 @@ final class Check {
         return x;
     }
 
+    /** A text with a fault: its place is told, and neither the text nor the tongue that was told ahead changes. */
+    static void fault(String text, int place) {
+        SameLetters x = told("word a 0 1 2;word b 1 0 0;shape 0;", 3);
+        x.write(1);
+        typed(x, text);
+        for (int time = 1; time <= 2; time++) {
+            due("tongue() of «" + text + "», time " + time, x.tongue(), -10 - place);
+            due("the text stays: «" + text + "»", x.count(3), text.length());
+            due("the words stay: «" + text + "»", x.count(0), 2);
+            due("the shapes stay: «" + text + "»", x.count(1), 1);
+            due("what was written stays: «" + text + "»", x.wrote(0), 1);
+        }
+    }
+
     static void end() {
         System.out.println(passed + " answers as due, " + failed + " not");
         if (failed != 0 || passed == 0) {
